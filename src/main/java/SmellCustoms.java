@@ -169,44 +169,36 @@ public final class SmellCustoms {
     // ---- behind so many hours from NOW
 
     public int strength(int t, int s, int hours) {
-        if (!isOne(TRAVELLERS, t) || !isOne(SMELLS, s)) {
-            return refuse(NO_SUCH);
-        }
-        if (!isWithin(hours, 0, MOST_HOURS)) {
-            return refuse(BAD_NUMBER);
+        int why = whyNotBehind(t, SMELLS, s, hours);
+        if (why != FINE) {
+            return refuse(why);
         }
         air.take(acts.now[t].halves, hours, 0);
         return answer(air.strong[s]);
     }
 
     public int covered(int t, int s, int hours) {
-        if (!isOne(TRAVELLERS, t) || !isOne(SMELLS, s)) {
-            return refuse(NO_SUCH);
-        }
-        if (!isWithin(hours, 0, MOST_HOURS)) {
-            return refuse(BAD_NUMBER);
+        int why = whyNotBehind(t, SMELLS, s, hours);
+        if (why != FINE) {
+            return refuse(why);
         }
         air.take(acts.now[t].halves, hours, 0);
         return answer(air.uncovered(s));
     }
 
     public int smelt(int t, int nose, int hours) {
-        if (!isOne(TRAVELLERS, t) || !isOne(NOSES, nose)) {
-            return refuse(NO_SUCH);
-        }
-        if (!isWithin(hours, 0, MOST_HOURS)) {
-            return refuse(BAD_NUMBER);
+        int why = whyNotBehind(t, NOSES, nose, hours);
+        if (why != FINE) {
+            return refuse(why);
         }
         air.take(acts.now[t].halves, hours, 0);
         return answer(air.smeltBy(told.noseSkill[nose]));
     }
 
     public int duty(int t, int p, int hours) {
-        if (!isOne(TRAVELLERS, t) || !isOne(PLACES, p)) {
-            return refuse(NO_SUCH);
-        }
-        if (!isWithin(hours, 0, MOST_HOURS)) {
-            return refuse(BAD_NUMBER);
+        int why = whyNotBehind(t, PLACES, p, hours);
+        if (why != FINE) {
+            return refuse(why);
         }
         return answer(dutyBehind(t, p, hours));
     }
@@ -610,6 +602,14 @@ public final class SmellCustoms {
         return number >= low && number <= high;
     }
 
+    /** The TROUBLE of asking for a traveller and one of a sort behind hours. */
+    private int whyNotBehind(int t, int sort, int number, int hours) {
+        if (!isOne(TRAVELLERS, t) || !isOne(sort, number)) {
+            return NO_SUCH;
+        }
+        return isWithin(hours, 0, MOST_HOURS) ? FINE : BAD_NUMBER;
+    }
+
     private void lay(int number) {
         for (int shift = 24; shift >= 0; shift -= 8) {
             if (taped < TAPE) {
@@ -823,18 +823,12 @@ public final class SmellCustoms {
                 kind = letters <= LONGEST_WORD ? WORD : WRONG;
             } else if (digits > 0) {
                 kind = digits <= LONGEST_WHOLE ? WHOLE : WRONG;
-            } else {
-                takeSign();
-            }
-        }
-
-        private void takeSign() {
-            if (at >= end) {
+            } else if (at >= end) {
                 kind = END;
-                return;
+            } else {
+                kind = tape[at] == ';' ? SEMICOLON : tape[at] == ',' ? COMMA : WRONG;
+                after = at + 1;
             }
-            kind = tape[at] == ';' ? SEMICOLON : tape[at] == ',' ? COMMA : WRONG;
-            after = at + 1;
         }
 
         /** The number of this WORD in a list of words with a blank between two; NONE. */

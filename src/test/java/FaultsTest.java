@@ -136,6 +136,9 @@ public final class FaultsTest {
         fault(3, MORE + ";path p ^p hours 3");
         fault(3, MORE + ";path p q hours 3;path p ^q hours 4");
         fault(3, MORE + ";path p q hours 3;path q ^p hours 4");
+        fault(3, MORE + ";path p q hours 1;path q ^p hours 1");
+        fault(3, MORE + ";leaves p s 1;leaves p ^s 4");
+        fault(3, MORE + ";on t s 1;on t ^s 4");
         fault(3, MORE + ";leaves p s 3;leaves p ^s 4");
         fault(3, MORE + ";on t s 3;on t ^s 4");
         fault(3, MORE + ";walk t p;walk ^t p");

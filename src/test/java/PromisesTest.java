@@ -38,6 +38,10 @@ public final class PromisesTest {
         led();
         sizes();
         wayWithoutFirstPlace();
+        aloneOnNewObjects();
+        edges();
+        gameFromAnotherPlace();
+        toldAnew();
         Check.end("PromisesTest");
     }
 
@@ -742,5 +746,85 @@ public final class PromisesTest {
         Check.fine(x, "duty(0, 0, 0)", x.duty(0, 0, 0), 81);
         Check.fine(x, "cheapest(0, 1)", x.cheapest(0, 1), 0);
         Check.fine(x, "secret(0, 1)", x.secret(0, 1), 1);
+    }
+
+    // Promises 28 to 32, 34: each call without another that would have looked ahead of it.
+    private static void aloneOnNewObjects() {
+        SmellCustoms x = Check.told(WORLD);
+        Check.fine(x, "could()", x.could(), 15);
+        x = Check.told(WORLD);
+        Check.fine(x, "surely()", x.surely(), 3);
+        x = Check.told(WORLD);
+        Check.fine(x, "beenAt(1)", x.beenAt(1), 1);
+        x = Check.told(WORLD);
+        Check.fine(x, "postOf(2)", x.postOf(2), 1);
+        x = Check.told(WORLD);
+        Check.fine(x, "rest(0, 1)", x.rest(0, 1), 54);
+        x = Check.told(WORLD);
+        Check.fine(x, "walkedAt(0, 1)", x.walkedAt(0, 1), 50);
+        x = Check.told(WORLD);
+        Check.fine(x, "wayAt(1, 0, 2, 1)", x.wayAt(1, 0, 2, 1), 2);
+    }
+
+    // Promises 14, 20, 26, 30, 36, 40, 44 where one more or less would be another answer.
+    private static void edges() {
+        String start = "border wind 1;land a duty 1;land b duty 0;smell s plain from a;smell k cover from b"
+                + ";nose n skill 5;nose m skill 1;place p in b nose m;place q in b nose n;path p q hours 1"
+                + ";traveller t simple home a at p;traveller u simple home a at p;traveller v child home a at q"
+                + ";traveller w bride home b at q;on u s 1";
+        SmellCustoms x = Check.told(start + ";on t s 54;walk t p;walk u q;asked u 0");
+        Check.fine(x, "cover(0, 1, 1)", x.cover(0, 1, 1), 99);
+        x.spray(0, 0, 55);
+        Check.fine(x, "cover(0, 1, 1)", x.cover(0, 1, 1), -2);
+        Check.due("led(1), of whom 1 would be asked", Check.led(x, 1), 1);
+        Check.fine(x, "claim(1, 0)", x.claim(1, 0), 0);
+        Check.fine(x, "claim(1, 1)", x.claim(1, 1), -2);
+        Check.fine(x, "windDuty(1, 0, 0, 0)", x.windDuty(1, 0, 0, 0), 1);
+        Check.fine(x, "wrongly()", x.wrongly(), -2);
+        Check.fine(x, "judge()", x.judge(), 0);
+        Check.fine(x, "rests(0, 1) of two places", x.rests(0, 1), 1);
+        Check.fine(x, "wash(1), who has the first smell alone", x.wash(1));
+        Check.fine(x, "undo()", x.undo());
+        Check.fine(x, "waits(1, 2)", x.waits(1, 2), 2);
+        Check.refused(x, "wash(1)", x.wash(1), 5);
+        Check.fine(x, "border()", Check.tell(x, start + ";whiff s 0"), 2);
+        Check.fine(x, "judge() of four without walks", x.judge(), -2);
+        Check.fine(x, "been()", x.been(), 4);
+        Check.fine(x, "beenAt(0), of two with one place", x.beenAt(0), 0);
+        Check.fine(x, "beenAt(1)", x.beenAt(1), -2);
+        SmellCustoms y = Check.told("border wind 1;land a duty 1;place p in a;traveller t simple home a at p");
+        Check.fine(y, "claim(0, 0) with one land", y.claim(0, 0), -2);
+    }
+
+    // Promises 33, 34: he is at the last place, and the first one is where most would be asked.
+    private static void gameFromAnotherPlace() {
+        SmellCustoms x = Check.told("border wind 1;land a duty 1;land b duty 1;smell s plain from a;place p in b"
+                + ";place q in b;place r in a;path p r hours 1;path p q hours 1;path q r hours 4"
+                + ";traveller t simple home a at r;traveller u simple home a at q;on t s 20;on u s 9");
+        // By p and then q: 19 and 18; to q alone: 16. Of p: 19 and 0.
+        Check.fine(x, "rests(0, 1)", x.rests(0, 1), 1);
+        Check.fine(x, "rest(0, 1)", x.rest(0, 1), 16);
+        Check.fine(x, "rests(1, 1)", x.rests(1, 1), 2);
+        Check.fine(x, "rest(1, 1)", x.rest(1, 1), 0);
+        // To p: 19 there; by q 16, and then 15.
+        Check.fine(x, "rests(0, 0)", x.rests(0, 0), 0);
+        Check.fine(x, "rest(0, 0)", x.rest(0, 0), -2);
+        Check.fine(x, "rests(0, 2)", x.rests(0, 2), 2);
+    }
+
+    // Promise 3: travellers as told, nothing PAID, no hours, nothing to undo, no MARKS.
+    private static void toldAnew() {
+        SmellCustoms x = Check.told(WORLD);
+        x.go(0, 1);
+        x.mark();
+        x.wash(1);
+        Check.fine(x, "border()", Check.tell(x, WORLD), 5);
+        Check.fine(x, "traveller(0, 2)", x.traveller(0, 2), 0);
+        Check.fine(x, "traveller(0, 3)", x.traveller(0, 3), 0);
+        Check.fine(x, "traveller(0, 4)", x.traveller(0, 4), 0);
+        Check.fine(x, "strength(0, 0, 0)", x.strength(0, 0, 0), 30);
+        Check.fine(x, "strength(1, 0, 0)", x.strength(1, 0, 0), 20);
+        Check.refused(x, "undo()", x.undo(), 6);
+        Check.refused(x, "back(0)", x.back(0), 1);
     }
 }
