@@ -1,7 +1,7 @@
 /** Each promise with answers reckoned by hand, its edges and its refusals. FaultsTest has more of promises 3 to 5. */
 public final class PromisesTest {
     // Smells: 0 r, 1 h, 2 k, 3 x, 4 i, 5 o. Noses: 0 n, 1 m. Places: 0 p, 1 q, 2 s, 3 z, 4 y. Travellers: 0 t to 3 w.
-    private static final String WORLD = "border wind 4;land a duty 2;land b duty 3;land c duty 0"
+    static final String WORLD = "border wind 4;land a duty 2;land b duty 3;land c duty 0"
             + ";smell r plain from a;smell h heavy from b;smell k cover from b;smell x burnt from b;smell i incense from a"
             + ";smell o cover from c;nose n skill 5;nose m skill 20"
             + ";place p in c;place q in c nose n;place s in b nose m;place z in a nose n;place y in c"
