@@ -25,6 +25,7 @@ public final class CallBoundsTest {
         claims();
         howLong();
         walks();
+        oddHalves();
         asked();
         likeWays();
         longestWays();
@@ -34,6 +35,7 @@ public final class CallBoundsTest {
         greaterStays();
         fewAndManyNoses();
         games();
+        gameByTheFirstPlace();
         draws();
         waits();
         goes();
@@ -273,6 +275,12 @@ public final class CallBoundsTest {
         Script.of(TOLLS).rows("spray 1 3 99 = 1", "duty 1 1 0 = 0", "spray 1 4 99 = 1", "duty 1 1 0 = 0", "spray 1 5 99 = 1",
                 "duty 1 2 0 = 0", "duty 1 1 0 = 0", "spray 1 0 99 = 1", "spray 1 1 99 = 1", "spray 1 2 99 = 1",
                 "duty 1 1 0 = 2782", "duty 1 2 0 = 100", "duty 1 3 0 = 1782");
+        // The most that can be: six smells of 99 by a duty of 9, twice.
+        Script.of("border wind 5;land a duty 9;land b duty 0;smell c plain from a;smell d plain from a;smell e plain from a"
+                + ";smell f heavy from a;smell g plain from a;smell h heavy from a;nose n skill 60;place p in b nose n"
+                + ";traveller t soldier home a at p;on t c 99;on t d 99;on t e 99;on t f 99;on t g 99;on t h 99").rows("duty 0 0 0 = 10692",
+                "smelt 0 0 0 = 63", "winds 0 0 0 = 594", "windDuty 0 0 65536 0 = 10692", "claim 0 0 = 0", "mustWait 0 0 = 79",
+                "duty 0 0 39 = 7164", "duty 0 0 40 = 2844", "duty 0 0 78 = 2160", "duty 0 0 79 = 0");
     }
 
     // "CLAIM: .. (burnt ones aside) together; none, if two have as much, or nothing is".
@@ -297,6 +305,8 @@ public final class CallBoundsTest {
                 "gone 0 5 = 0", "gone 1 0 = 1", "gone 1 1 = 1", "gone 1 2 = 1", "gone 1 3 = 1", "gone 1 4 = 1",
                 "waits 0 99 = 99", "gone 0 1 = 98", "gone 0 0 = 0", "waits 0 97 = 196", "strength 0 1 0 = 1", "gone 0 1 = 1",
                 "waits 0 1 = 197", "strength 0 1 0 = 0", "gone 0 1 = 0");
+        // Of what he doesn't have on, of each KIND, 0.
+        Script.of(TOLLS).rows("gone 0 0 = 0", "gone 0 1 = 0", "gone 0 2 = 0", "gone 0 3 = 0", "gone 0 4 = 0", "gone 3 5 = 0");
         Script.of(TOLLS).rows("mustWait 0 1 = 0", "spray 0 1 99 = 1", "mustWait 0 1 = 197", "mustWait 0 0 = 0",
                 "mustWait 0 3 = 0", "mustWait 0 2 = 197", "spray 1 1 99 = 1", "mustWait 1 1 = 197", "spray 2 1 99 = 1",
                 "mustWait 2 1 = 195", "spray 3 1 99 = 1", "mustWait 3 1 = 0", "spray 0 1 1 = 1", "mustWait 0 1 = 1",
@@ -327,6 +337,15 @@ public final class CallBoundsTest {
                 "go 3 1 = 0", "judge = 3");
         // Places leave nothing on him, and nothing is asked of him whom nothing is smelt on.
         Script.of(WALKERS).rows("waits 0 20 = 20", "walked 0 = 0", "walkedAt 0 4 = 0", "waits 2 99 = 99", "walked 2 = -2");
+    }
+
+    // "STRENGTH is half of them, downwards", wherever DUTY is asked: behind an hour each of 40 halves 39, 38, 37 are left.
+    private static void oddHalves() {
+        Script.of("border wind 1;land a duty 1;land b duty 1;smell h heavy from a;nose n skill 1;place p in b nose n"
+                + ";place q in b nose n;path p q hours 1;traveller t simple home a at p;on t h 20;walk t q,p,q").rows("walked 0 = 56",
+                "walkedAt 0 0 = 19", "walkedAt 0 1 = 19", "walkedAt 0 2 = 18", "cheapest 0 1 = 19", "rest 0 1 = 19", "posts = 19",
+                "duty 0 1 1 = 19", "windDuty 0 1 0 1 = 19", "go 0 1 = 19", "cheapest 0 0 = 19", "go 0 0 = 19", "rest 0 1 = 18",
+                "go 0 1 = 18", "led 0 = 0");
     }
 
     // wrongly: "The first asked, as told, that isn't what the traveller's WALK comes to (nor if none is told, it can't be)".
@@ -383,14 +402,27 @@ public final class CallBoundsTest {
                     "wayAt " + kind + " 1 5 0 ! 1", "wayAt 3 0 5 0 ! 1", "wayAt -1 0 5 0 ! 1", "quickest 0 5 = 200",
                     "secret 0 5 = 200", "cheapest 0 5 = 0");
         }
+        // 40 hours five times: of 99 heavy ones 19 are left behind 160, none behind 200.
+        String heavy = row.replace("land a duty 1", "land a duty 1;land b duty 1;smell h heavy from b;nose n skill 1")
+                .replace("place v in a", "place v in a nose n") + ";on t h 99;walk t q,r,s,u,v";
+        Script.of(heavy).rows("quickest 0 5 = 200", "secret 0 5 = 200", "cheapest 0 5 = 0", "walked 0 = 0", "mustWait 0 5 = 197",
+                "rest 0 5 = 79", "rests 0 5 = 1");
+        Script.of(heavy.replace("place u in a", "place u in a nose n")).rows("cheapest 0 4 = 19", "cheapest 0 5 = 19",
+                "secret 0 5 = -2", "secret 0 4 = -2", "secret 0 3 = 120", "walked 0 = 19", "walkedAt 0 3 = 19", "walkedAt 0 4 = 0");
         Script.of(row.replace(";path q r hours 40", "")).rows("quickest 0 1 = 40", "quickest 0 2 = -2", "cheapest 0 2 = -2",
                 "secret 0 2 = -2", "wayAt 0 0 2 0 ! 1", "wayAt 1 0 2 0 ! 1", "wayAt 2 0 2 0 ! 1", "rounds = 0");
-        // Most WAYS that ten paths allow: five places with a path between each two, and one without.
+        // Sixteen WAYS, by five places to each: a path between each two of five places, and one place without.
         String five = "border wind 1;land a duty 1;place p in a;place q in a;place r in a;place s in a;place u in a;place v in a"
                 + ";path p q hours 9;path p r hours 1;path p s hours 1;path p u hours 9;path q r hours 9;path q s hours 1"
                 + ";path q u hours 1;path r s hours 9;path r u hours 9;path s u hours 9;traveller t simple home a at p";
         Script.of(five).rows("quickest 0 4 = 3", "wayAt 0 0 4 1 = 3", "wayAt 0 0 4 2 = 1", "wayAt 0 0 4 3 = 4",
                 "wayAt 0 0 4 4 ! 1", "quickest 0 5 = -2", "rests 0 4 = 80", "rest 0 4 = 0");
+        // Twenty WAYS, the most that ten paths allow between two of six places.
+        Script.of("border wind 1;land a duty 1;place p in a;place q in a;place r in a;place s in a;place u in a;place v in a"
+                + ";path p q hours 1;path p r hours 1;path q r hours 1;path q s hours 1;path q u hours 1;path r s hours 1"
+                + ";path r u hours 1;path s u hours 1;path s v hours 1;path u v hours 1;traveller t simple home a at p").rows(
+                "size 5 = 10", "rests 0 5 = 100", "rest 0 5 = 0", "quickest 0 5 = 3", "wayAt 0 0 5 1 = 1", "wayAt 0 0 5 2 = 3",
+                "wayAt 0 0 5 3 = 5", "wayAt 0 0 5 4 ! 1");
     }
 
     // "ROUND: CHEAPEST has less DUTY than QUICKEST": less, not as much.
@@ -405,6 +437,8 @@ public final class CallBoundsTest {
         Script.of(world.replace("place r in b", "place r in b nose n") + "2").rows("cheapest 0 3 = 1", "rounds = 0");
         // To q itself, by r and s: 4 hours, in which 4 are gone; by the path to it 1.
         Script.of(world + "9").rows("cheapest 0 1 = 5", "rounds = 2");
+        // From s, the last place, to p, the first one, and to q.
+        Script.of(world.replace("t simple home a at p", "t simple home a at s") + "2").rows("cheapest 0 0 = 0", "rounds = 2");
     }
 
     // "the least STRENGTH (0 .. 99) of a cover smell .. in place of what he has of it"; "-2 it can't be (no WAY, too)".
@@ -445,6 +479,13 @@ public final class CallBoundsTest {
         Script.of(line + "60;smell z plain from a;whiff z 0").rows("been = 4");
         Script.of(line + "60;smell z plain from a;whiff z 1").rows("been = 0");
         Script.of(line + "60;smell z plain from a;leaves p z 7").rows("been = 4");
+        // Each call by itself, and behind another text.
+        Script.of(line + "60").rows("could = 15");
+        Script.of(line + "60").rows("surely = 1");
+        Script.of(line + "60").rows("beenAt 0 = 0");
+        Script.of(line + "60").rows("could = 15", "beenAt 0 = 0").feeds(line + "59").rows("border " + (line.length() + 2) + " = 5",
+                "could = 3", "surely = 3", "beenAt 1 = 1").feeds(line + "56").rows("border " + (line.length() + 2) + " = 5",
+                "could = 0", "surely = 0", "beenAt 0 = -2");
         // Of rows of as many places the first by numbers; he may begin at whichever, nothing fades behind the last.
         Script.of("border wind 1;land a duty 1;smell s burnt from a;place p in a;place q in a;place r in a;path r p hours 2"
                 + ";path q r hours 3;leaves r s 4;leaves q s 4;whiff s 4").rows("been = 6", "beenAt 0 = 1", "beenAt 1 = -2",
@@ -492,6 +533,10 @@ public final class CallBoundsTest {
         Script.of(start + ";nose n skill 1;nose m skill 2;place p in b nose m").rows("posts = 0", "postOf 0 = 0");
         Script.of(start + ";nose n skill 1;place p in b;place q in b nose n;place s in b" + end.replace("walk t q,s", "walk t q,p"))
                 .rows("posts = 10", "go 0 1 = 10", "posts = 0", "postOf 1 = 0");
+        // Of all walks together.
+        Script.of(start + ";nose n skill 1;place p in b;place q in b nose n;place s in b" + end.replace("walk t q,s", "walk t q")
+                + ";traveller u soldier home a at p;on u r 6;walk u q;traveller v child home a at p;walk v s").rows("posts = 20",
+                "judge = 2", "waits 0 99 = 99", "posts = 10");
         // Four noses for six places.
         Script.of(start + ";nose c skill 1;nose d skill 1;nose e skill 1;nose f skill 1;place g in a nose c;place h in a nose c"
                 + ";place i in a nose c;place j in a nose c;place k in a nose c;place l in a nose c").rows("postOf 0 = 0",
@@ -526,6 +571,13 @@ public final class CallBoundsTest {
         // He is at the last place: the nose may stand at the others alone.
         Script.of(two.replace("t simple home a at p", "t soldier home a at q") + "9;path p q hours 1").rows("rests 0 0 = 1",
                 "rest 0 0 = 16", "rests 0 1 = 1", "rest 0 1 = 0");
+    }
+
+    // The nose would rather stand at the first place, which he comes by first: 19 there, 18 at the next.
+    private static void gameByTheFirstPlace() {
+        Script.of("border wind 1;land a duty 1;land b duty 1;smell s plain from a;place p in b;place q in b;place r in a"
+                + ";path p r hours 1;path p q hours 1;traveller t simple home a at r;on t s 20").rows("rests 0 1 = 1", "rest 0 1 = 19",
+                "rests 0 0 = 1", "rest 0 0 = 19", "rests 0 2 = 2", "rest 0 2 = 0");
     }
 
     // WINDS: "a DRAW mod wind", "(75 times SEED and 74) mod 65,537"; "hours (0 .. 99)", "a SEED (0 .. 65,536)".

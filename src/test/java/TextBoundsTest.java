@@ -237,6 +237,14 @@ public final class TextBoundsTest {
         bad(2, "border wind 3;land abcdefghi duty 1;place p in ^abcdefghj");
         bad(2, "border wind 3;land abcdefghi duty 1;place p in ^bbcdefghi");
         bad(2, "border wind 3;land a duty 1;place p in ^aa");
+        // Letters that would be alike if they were counted in less than 26.
+        for (String two : List.of("q aq", "bq ca", "ap b", "aa q", "az bj", "p aa", "ab ba", "azz baz")) {
+            String[] names = two.split(" ");
+            for (int i = 0; i < 2; i++) {
+                bad(2, "border wind 3;land " + names[i] + " duty 1;place z in ^" + names[1 - i]);
+                good("border wind 3;land " + names[i] + " duty 1;land " + names[1 - i] + " duty 2;place z in " + names[i], 1);
+            }
+        }
         good("border wind 3;land a duty 1;land aa duty 2;land aaaaaaaaa duty 3;place aaaaaaaa in aa", 1);
     }
 
