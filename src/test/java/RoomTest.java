@@ -1,8 +1,13 @@
 import java.lang.management.ManagementFactory;
+import java.lang.reflect.Array;
+import java.lang.reflect.Field;
 import java.lang.reflect.InvocationTargetException;
 import java.lang.reflect.Method;
 import java.lang.reflect.Modifier;
+import java.util.Collections;
+import java.util.IdentityHashMap;
 import java.util.NoSuchElementException;
+import java.util.Set;
 
 /** What the dearest calls allocate, and that no argument in any state makes the machine throw. */
 public final class RoomTest {
@@ -25,6 +30,7 @@ public final class RoomTest {
         anyArguments(Check.told("border wind 1;land a duty 0;place b in a"));
         anyArguments(Check.told("border wind 1;land a duty 0;place b in a;traveller c child home a at b"));
         allocates();
+        takesOfTheRoom();
         Check.end("RoomTest");
     }
 
@@ -68,6 +74,37 @@ public final class RoomTest {
         new SmellCustoms();
         long made = beans.getThreadAllocatedBytes(thread) - before;
         Check.due("an object is small: " + made + " bytes", made < 40000, true);
+    }
+
+    /** Making an object is the dearest call: as many of them as an object has calls must find room. */
+    private static void takesOfTheRoom() throws Exception {
+        Set<Object> seen = Collections.newSetFromMap(new IdentityHashMap<>());
+        long elements = count(new SmellCustoms(), seen);
+        Check.due("objects and arrays: " + seen.size(), seen.size() * 512L < 600_000, true);
+        Check.due("fields and elements: " + elements, elements * 512 < 7_300_000, true);
+    }
+
+    private static long count(Object x, Set<Object> seen) throws Exception {
+        if (x == null || !seen.add(x)) {
+            return 0;
+        }
+        if (x.getClass().isArray()) {
+            int length = Array.getLength(x);
+            long sum = length;
+            for (int i = 0; i < length && !x.getClass().getComponentType().isPrimitive(); i++) {
+                sum += count(Array.get(x, i), seen);
+            }
+            return sum;
+        }
+        long sum = 0;
+        for (Field field : x.getClass().getDeclaredFields()) {
+            if (!Modifier.isStatic(field.getModifiers())) {
+                sum++;
+                field.setAccessible(true);
+                sum += field.getType().isPrimitive() ? 0 : count(field.get(x), seen);
+            }
+        }
+        return sum;
     }
 
     private static void dear(SmellCustoms x) {
